@@ -130,7 +130,7 @@ public final class TieredMachine {
         int fallen = 0;
         for (int i = 0; i < methods.size(); i++) {
             Method each = methods.get(i);
-            if (each.tier == TRUSTING && each.trustsChange(selector, hierarchy)) {
+            if (each.tier == TRUSTING && each.hasTrustingSend(selector, hierarchy)) {
                 each.cool();
                 fallen++;
             }
@@ -551,7 +551,7 @@ public final class TieredMachine {
 
         int understood(int type, int selector) {
             int at = type;
-            for (int up = 0; up < count && hasClass(at); up++) {
+            for (int up = 0; up < MAX_CLASSES && hasClass(at); up++) {
                 if (implementers[at][selector] != NONE) {
                     return implementers[at][selector];
                 }
@@ -564,7 +564,7 @@ public final class TieredMachine {
         int levels(int type, int selector) {
             int at = type;
             int passed = 0;
-            for (int up = 0; up < count && hasClass(at); up++) {
+            for (int up = 0; up < MAX_CLASSES && hasClass(at); up++) {
                 passed++;
                 if (implementers[at][selector] != NONE) {
                     return passed;
@@ -684,7 +684,8 @@ public final class TieredMachine {
             }
         }
 
-        boolean trustsChange(int selector, Hierarchy hierarchy) {
+        /** Whether a SEND of it trusts a class that has just changed what it understands. */
+        boolean hasTrustingSend(int selector, Hierarchy hierarchy) {
             for (int i = 0; i < code.size(); i++) {
                 if (code.get(i).trustsChange(selector, hierarchy)) {
                     return true;
@@ -721,7 +722,6 @@ public final class TieredMachine {
             method = number;
             tier = runningTier;
             place = 0;
-            awaiting = 0;
             Arrays.fill(values, 0);
             Arrays.fill(types, NONE);
         }

@@ -1,4 +1,4 @@
-/** What the tests share: counting wrong answers, the kinds of instructions, and a picture of all that an object tells. */
+/** What the tests share: counting wrong answers, the kinds of instructions, a picture of all that an object tells. */
 final class Check {
     static final int SET = 0;
     static final int ADD = 1;
@@ -42,7 +42,10 @@ final class Check {
         }
     }
 
-    /** The call must throw just this class (no class below it), and nothing that the object tells may change. */
+    /**
+     * The call must throw just this class (no class below it), by a throw statement of TieredMachine itself, and
+     * nothing that the object tells may change.
+     */
     static void refused(String what, TieredMachine x, Class<? extends RuntimeException> type, Call call) {
         String before = picture(x);
         Class<?> thrown = null;
@@ -50,12 +53,19 @@ final class Check {
             call.go();
         } catch (RuntimeException e) {
             thrown = e.getClass();
+            due(what + ": thrown by the class itself", thrownBy(e, TieredMachine.class), true);
         }
         looked++;
         if (thrown != type) {
             complain(what + " threw " + thrown + ", due is " + type);
         }
         due(what + ": what the object tells afterwards", picture(x), before);
+    }
+
+    /** False if the library has thrown it; what the Java machine throws is of other classes than the document's. */
+    static boolean thrownBy(Throwable e, Class<?> thrower) {
+        StackTraceElement[] trace = e.getStackTrace();
+        return trace.length > 0 && (trace[0].getClassName() + "$").startsWith(thrower.getName() + "$");
     }
 
     static void complain(String text) {

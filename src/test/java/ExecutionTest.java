@@ -222,8 +222,12 @@ final class ExecutionTest extends Programs {
         Check.due("11 an object", x.resultClass(), 0);
         x.run(2, 0, 10);
         Check.due("12 an error, no result", Check.outcome(x), "result 0 class -1 error 1 cost 10 steps 1 depth 1");
-        x.run(2, 0, 0);
-        Check.due("12 no error any more", Check.outcome(x), "result 0 class -1 error 0 cost 0 steps 0 depth 1");
+        x.addMethod();
+        Check.append(x, 3, Check.op(Check.RETURN, 0));
+        x.run(3, 9, 10);
+        Check.due("12 no error any more", Check.outcome(x), "result 9 class -1 error 0 cost 10 steps 1 depth 1");
+        x.run(2, 9, 0);
+        Check.due("10 no result any more", Check.outcome(x), "result 0 class -1 error 0 cost 0 steps 0 depth 1");
     }
 
     private static void wrongValues() {

@@ -95,7 +95,8 @@ final class MethodsTest extends Programs {
         x.addMethod();
         Check.due("22 a method", x.digest(), mixed(2, 1, 0, 0, 0, 0, 0, 0, 0));
         x.addMethod();
-        Check.append(x, 1, Check.op(Check.NEW, 1, 0), Check.op(Check.SEND, 0, 0, 1, 0), Check.op(Check.SEND, 0, 0, 1, 0));
+        int[] send = Check.op(Check.SEND, 0, 0, 1, 0);
+        Check.append(x, 1, Check.op(Check.NEW, 1, 0), send, send);
         Check.due("22 two SENDs", x.digest(), mixed(2, 2, 0, 0, 0, 0, 3, 0, 0, 0, 0, 0, 0, 0, 0));
     }
 

@@ -38,7 +38,8 @@ final class ModelTest {
         while (calls < CALLS) {
             int choice = random.nextInt(100);
             if (choice < 35) {
-                call("run", below(methods), value(), random.nextInt(3) == 0 ? random.nextInt(60) : random.nextInt(2001));
+                int steps = random.nextInt(random.nextInt(3) == 0 ? 60 : 2001);
+                call("run", below(methods), value(), steps);
                 tellAll();
             } else if (choice < 50) {
                 call("implement", below(types), random.nextInt(3), below(methods + 1) - 1);
@@ -160,7 +161,8 @@ final class ModelTest {
         try {
             return String.valueOf(target.getClass().getMethod(name, parameters).invoke(target, arguments));
         } catch (InvocationTargetException e) {
-            return "throws " + e.getCause().getClass().getName();
+            boolean itself = Check.thrownBy(e.getCause(), target.getClass());
+            return "throws " + e.getCause().getClass().getName() + (itself ? "" : ", not by itself");
         }
     }
 }

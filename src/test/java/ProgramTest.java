@@ -347,5 +347,14 @@ final class ProgramTest extends Programs {
         Check.due("8 the policy stays", x.setPolicy(1, 2, 2), false);
         Check.due("8 the program stays", x.understands(3, 0), 1);
         Check.due("8 forget again", x.forget(), 0);
+        x.setPolicy(1000, 1000, 0);
+        for (int i = 0; i < 4; i++) {
+            x.run(0, i, 100);
+        }
+        Check.due("8 crowded", x.met(0, 10), 4);
+        Check.due("8 no tiers", x.forget(), 0);
+        Check.due("8 not crowded any more", Check.records(x, 0), "10:0[] ");
+        x.run(0, 3, 100);
+        Check.due("8 it learns again", Check.records(x, 0), "10:1[3] ");
     }
 }

@@ -69,7 +69,7 @@ class Programs {
         return x;
     }
 
-    /** Method 0 makes an object of class 0 and sends it selector 0 with its own argument; method 1 is what is called. */
+    /** Method 0 makes an object of class 0 and sends it selector 0 with its own argument, which calls method 1. */
     static TieredMachine caller(int[][] afterwards, int[]... called) {
         TieredMachine x = single(Check.op(Check.NEW, 1, 0), Check.op(Check.SEND, 2, 0, 1, 0));
         Check.append(x, 0, afterwards);
