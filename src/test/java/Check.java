@@ -16,12 +16,32 @@ final class Check {
 
     private static int wrong = 0;
     private static int looked = 0;
+    private static String sentence = "";
+    private static int lookedBefore = 0;
 
     interface Call {
         void go();
     }
 
     private Check() {
+    }
+
+    /** Names the document's sentence that the checks behind this call are for; one without a check is a fault. */
+    static void sentence(String words) {
+        endSentence();
+        sentence = words;
+        lookedBefore = looked;
+    }
+
+    private static void endSentence() {
+        if (!sentence.isEmpty() && looked == lookedBefore) {
+            complain("nothing was checked");
+        }
+    }
+
+    /** The ints nearest to a range, on both sides of it, and the farthest ones. */
+    static int[] outside(int low, int high) {
+        return new int[] {Integer.MIN_VALUE, low - 1, high + 1, Integer.MAX_VALUE};
     }
 
     static void due(String what, long got, long want) {
@@ -70,10 +90,11 @@ final class Check {
 
     static void complain(String text) {
         wrong++;
-        System.out.println(text);
+        System.out.println(sentence.isEmpty() ? text : "\"" + sentence + "\": " + text);
     }
 
     static void end() {
+        endSentence();
         System.out.println(wrong == 0 ? looked + " answers are as due" : wrong + " answers are not as due");
         if (wrong != 0) {
             System.exit(1);

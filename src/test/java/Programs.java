@@ -1,5 +1,66 @@
-/** Small programs that several tests use. */
+import java.util.Arrays;
+
+/** Small programs that several tests use, and the instructions by name. */
 class Programs {
+
+    static int[] set(int a, int number) {
+        return Check.op(Check.SET, a, number);
+    }
+
+    static int[] add(int a, int b, int c) {
+        return Check.op(Check.ADD, a, b, c);
+    }
+
+    static int[] sub(int a, int b, int c) {
+        return Check.op(Check.SUB, a, b, c);
+    }
+
+    static int[] mul(int a, int b, int c) {
+        return Check.op(Check.MUL, a, b, c);
+    }
+
+    static int[] make(int a, int type) {
+        return Check.op(Check.NEW, a, type);
+    }
+
+    static int[] send(int a, int selector, int object, int argument) {
+        return Check.op(Check.SEND, a, selector, object, argument);
+    }
+
+    static int[] less(int a, int b, int place) {
+        return Check.op(Check.LESS, a, b, place);
+    }
+
+    static int[] jump(int place) {
+        return Check.op(Check.JUMP, place);
+    }
+
+    static int[] answer(int a) {
+        return Check.op(Check.RETURN, a);
+    }
+
+    /** The same instruction so many times. */
+    static int[][] times(int count, int[] instruction) {
+        int[][] row = new int[count][];
+        Arrays.fill(row, instruction);
+        return row;
+    }
+
+    /** Classes from 0 on, so many, each the parent of the next one. */
+    static TieredMachine chain(int count) {
+        TieredMachine x = new TieredMachine();
+        for (int i = 0; i < count; i++) {
+            x.addClass(i - 1);
+        }
+        return x;
+    }
+
+    /** Adds a method of these instructions. */
+    static int method(TieredMachine x, int[]... instructions) {
+        int number = x.addMethod();
+        Check.append(x, number, instructions);
+        return number;
+    }
 
     /**
      * Class 0 with its children 1, 2 and 3; class 0 implements selector 0 by the empty method 1. Method 0 sends
@@ -76,6 +137,56 @@ class Programs {
         x.addMethod();
         Check.append(x, 1, called);
         x.implement(0, 0, 1);
+        return x;
+    }
+
+    /**
+     * Class 0 with its children 1, 2 and 3; class 0 implements selector 0 by the empty method 1. Method 0 sends
+     * selector 0, at its place 13, to an object of the class 0, 1, 2 or 3 that its argument tells; with the argument
+     * 4 it does so at its place 12, and then again at 13, to an object of class 3. So it can be disappointed five
+     * times, and more often than one record has room.
+     */
+    static TieredMachine doubleSender() {
+        TieredMachine x = new TieredMachine();
+        x.addClass(-1);
+        for (int i = 1; i < 4; i++) {
+            x.addClass(0);
+        }
+        method(x,
+            set(2, 1),
+            make(3, 0),
+            less(0, 2, 13),
+            sub(0, 0, 2),
+            make(3, 1),
+            less(0, 2, 13),
+            sub(0, 0, 2),
+            make(3, 2),
+            less(0, 2, 13),
+            sub(0, 0, 2),
+            make(3, 3),
+            less(0, 2, 13),
+            send(1, 0, 3, 0),
+            send(1, 0, 3, 0),
+            answer(1));
+        x.implement(0, 0, x.addMethod());
+        return x;
+    }
+
+    /**
+     * Class 0 and its child 1. Method 0 has a SEND of selector 1 at its first place and one at its last place, 19,
+     * both to the object that it is called with, and both calling the empty method 1. Methods 2 and 3 call method 0
+     * with an object of class 0 and of class 1.
+     */
+    static TieredMachine firstAndLastPlace() {
+        TieredMachine x = chain(2);
+        int[][] code = times(20, set(2, 0));
+        code[0] = send(3, 1, 1, 0);
+        code[19] = send(3, 1, 1, 0);
+        x.implement(0, 0, method(x, code));
+        x.implement(0, 1, x.addMethod());
+        for (int type = 0; type < 2; type++) {
+            method(x, make(1, type), send(0, 0, 1, 0));
+        }
         return x;
     }
 }
