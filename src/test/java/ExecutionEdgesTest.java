@@ -16,6 +16,7 @@ final class ExecutionEdgesTest extends Programs {
         trustedIndex();
         disappointment();
         disappointmentOfAllRunningOnes();
+        disappointmentOfNoOtherMethod();
         disappointmentOfTwenty();
         twentyMethods();
         tooDeepInstead();
@@ -291,6 +292,21 @@ final class ExecutionEdgesTest extends Programs {
         Check.due("the called one is another method", x.tier(1), 2);
     }
 
+    /** Method 1 sends to an object of class 0, or of class 1 if its argument is not below 1. */
+    private static void disappointmentOfNoOtherMethod() {
+        TieredMachine x = chain(2);
+        method(x, make(1, 0), send(2, 0, 1, 0), answer(2));
+        x.implement(0, 0, method(x, set(2, 1), make(3, 0), less(0, 2, 4), make(3, 1), send(3, 1, 3, 0), answer(0)));
+        x.implement(0, 1, x.addMethod());
+        x.setPolicy(1, 2, 5);
+        x.run(0, 0, 100);
+        x.run(0, 0, 100);
+        x.run(0, 1, 100);
+        Check.due("its caller still runs in tier 2", x.cost(), 2 + 4 + (1 + 2) + 10 + 1);
+        learned("its caller still has the tier 2", x, "2/3/0 1:1[0] ");
+        Check.due("it has gone back", Check.learned(x, 1), "0/0/1");
+    }
+
     /** The argument counts down to 1; the twentieth one, and only it, sends to an object of class 1. */
     private static void disappointmentOfTwenty() {
         TieredMachine x = chain(2);
@@ -384,6 +400,18 @@ final class ExecutionEdgesTest extends Programs {
         x.run(0, 1, 100);
         Check.due("a tier that another execution has brought", x.cost(), 50 + 1 + 140 + 12 + 10 + 8);
         Check.due("a tier that another execution has brought", Check.totals(x), "1,0,0,1");
+        switchOfTheInnerOneAlone();
+    }
+
+    /** The inner one, with the argument 1, goes back once, from place 8 to 6; it returns from 9, the outer one from 5. */
+    private static void switchOfTheInnerOneAlone() {
+        TieredMachine x = single(set(2, 1), sub(0, 0, 2), less(0, 2, 6), make(3, 0), send(1, 0, 3, 0), answer(1),
+            less(2, 3, 9), set(3, 5), jump(6), answer(0));
+        x.implement(0, 0, 0);
+        x.setPolicy(3, 1000, 0);
+        x.run(0, 2, 100);
+        Check.due("the outer one stays in tier 0", x.cost(), (50 + 1) + (60 + 200 + 8) + 10);
+        Check.due("the outer one stays in tier 0", Check.totals(x), "1,0,0,1");
     }
 
     /** Four steps, each a jump to its own place. */

@@ -1,7 +1,9 @@
 import java.lang.reflect.InvocationTargetException;
 import java.lang.reflect.Method;
+import java.util.ArrayList;
 import java.util.Arrays;
 import java.util.Comparator;
+import java.util.List;
 import java.util.Random;
 
 /**
@@ -34,6 +36,14 @@ final class ModelTest {
     }
 
     private void go() throws Exception {
+        if (run % 2 == 0) {
+            goWild();
+        } else {
+            goLively();
+        }
+    }
+
+    private void goWild() throws Exception {
         build();
         while (calls < CALLS) {
             int choice = random.nextInt(100);
@@ -51,6 +61,27 @@ final class ModelTest {
                 appendSome(below(methods));
             } else if (choice < 66) {
                 grow();
+            } else {
+                anyCall();
+            }
+        }
+    }
+
+    /** Few calls take away what was learned, so that the tiers rise and fall in the executions themselves. */
+    private void goLively() throws Exception {
+        buildLively();
+        while (calls < CALLS) {
+            int choice = random.nextInt(100);
+            if (choice < 75) {
+                call("run", below(methods), random.nextInt(15) == 0 ? 25 : random.nextInt(8), random.nextInt(2001));
+                tellAll();
+                call("metClass", below(methods), random.nextInt(20), random.nextInt(3));
+            } else if (choice < 86) {
+                call("implement", below(types), random.nextInt(3), below(methods + 1) - 1);
+            } else if (choice < 95) {
+                call("setPolicy", 1 + random.nextInt(12), 1 + random.nextInt(30), 1 + random.nextInt(5));
+            } else if (choice < 97) {
+                call("forget");
             } else {
                 anyCall();
             }
@@ -88,6 +119,65 @@ final class ModelTest {
             }
         }
         call("setPolicy", 1 + random.nextInt(5), 1 + random.nextInt(12), random.nextInt(6));
+    }
+
+    private void buildLively() throws Exception {
+        int wantedTypes = 4 + random.nextInt(5);
+        int wantedMethods = 3 + random.nextInt(3);
+        for (; types < wantedTypes; types++) {
+            call("addClass", below(types + 1) - 1);
+        }
+        for (; methods < wantedMethods; methods++) {
+            call("addMethod");
+        }
+        for (int m = 0; m < methods; m++) {
+            appendLively(m);
+        }
+        for (int type = 0; type < types; type++) {
+            for (int selector = 0; selector < 3; selector++) {
+                if (type == 0 || random.nextInt(2) == 0) {
+                    call("implement", type, selector, below(methods));
+                }
+            }
+        }
+        call("setPolicy", 1 + random.nextInt(6), 1 + random.nextInt(20), 1 + random.nextInt(5));
+    }
+
+    /**
+     * A method that ends if its argument is below 1, and otherwise sends a smaller one, to its own object and to new
+     * ones whose class depends on the argument: it has some of itself running below it, and meets several classes.
+     */
+    private void appendLively(int method) throws Exception {
+        List<int[]> code = new ArrayList<>();
+        if (random.nextInt(3) == 0) {
+            code.add(Programs.make(1, below(types)));
+        }
+        code.add(Programs.set(2, 1));
+        int guard = code.size();
+        code.add(null);
+        code.add(Programs.sub(0, 0, 2));
+        while (code.size() < 14) {
+            addLivelyPart(code);
+        }
+        code.set(guard, Programs.less(0, 2, code.size()));
+        code.add(Programs.answer(2 * random.nextInt(2)));
+        for (int[] i : code) {
+            call("append", method, i[0], i[1], i.length > 2 ? i[2] : 0, i.length > 3 ? i[3] : 0,
+                i.length > 4 ? i[4] : 0);
+        }
+    }
+
+    private void addLivelyPart(List<int[]> code) {
+        int here = code.size();
+        int selector = random.nextInt(3);
+        switch (random.nextInt(4)) {
+            case 0 -> code.add(Programs.send(2, selector, 1, 0));
+            case 1 -> code.addAll(List.of(Programs.make(3, below(types)), Programs.send(2, selector, 3, 0)));
+            case 2 -> code.addAll(List.of(Programs.set(2, random.nextInt(6)), Programs.make(3, below(types)),
+                Programs.less(0, 2, here + 4), Programs.make(3, below(types)), Programs.send(2, selector, 3, 0)));
+            default -> code.addAll(List.of(Programs.set(2, 1), Programs.sub(0, 0, 2),
+                Programs.less(2, 0, random.nextInt(here + 3))));
+        }
     }
 
     private int below(int bound) {

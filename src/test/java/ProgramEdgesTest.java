@@ -20,6 +20,8 @@ final class ProgramEdgesTest extends Programs {
         implementInPlace();
         implementLetsFall();
         implementAtTheFirstAndTheLastPlace();
+        implementLooksAtTheTrustedRecord();
+        implementLooksAtEachSend();
         implementLetsNothingFall();
         implementTakesAway();
         implementCounts();
@@ -131,7 +133,10 @@ final class ProgramEdgesTest extends Programs {
         }
         Check.due("a record of one, and a crowded one", learned(x), "1/1/5 12:1[3] 13:4[012] ");
         String called = Check.learned(x, 1);
+        String told = Check.totals(x) + Check.outcome(x);
         Check.due("append", x.append(0, Check.SET, 0, 0, 0, 0), 15);
+        Check.due("the totals and the latest execution stay", Check.totals(x) + Check.outcome(x), told);
+        Check.due("the settings stay", x.setPolicy(1, 1, 5), false);
         Check.due("all of it is gone", learned(x), "0/0/0 12:0[] 13:0[] ");
         Check.due("of this method alone", Check.learned(x, 1), called);
         Check.due("of a method that has learned nothing", x.append(0, Check.SET, 0, 0, 0, 0), 16);
@@ -334,6 +339,39 @@ final class ProgramEdgesTest extends Programs {
             Check.due("a SEND at place " + place + " alone", learned(x), "2/2/0 " + place + ":1[0] ");
             Check.due("it falls", x.implement(0, 1, -1), 1);
         }
+    }
+
+    private static void implementLooksAtTheTrustedRecord() {
+        String before = "2/5/0 4:1[0] 5:4[012] ";
+        for (int type = 0; type < 3; type++) {
+            TieredMachine x = crowdedLater();
+            Check.due("the trusted record is not crowded, the present one is", learned(x), before);
+            Check.due("index " + type + " of it", x.implement(type, 1, 3), 1);
+            Check.due("index " + type + " of it", learned(x), "0/0/0 4:1[0] 5:4[012] ");
+        }
+        TieredMachine y = crowdedLater();
+        Check.due("a class that only the present one has met", y.implement(3, 1, 3), 0);
+        Check.due("a class that only the present one has met", learned(y), before);
+    }
+
+    /** Places 12 and 13 of doubleSender() both send selector 0. */
+    private static void implementLooksAtEachSend() {
+        TieredMachine x = doubleSender();
+        x.run(0, 1, 100);
+        x.setPolicy(1, 1, 5);
+        x.run(0, 0, 0);
+        Check.due("the first SEND trusts no class", learned(x), "2/2/0 12:0[] 13:1[1] ");
+        Check.due("the second one does", x.implement(1, 0, 0), 1);
+        TieredMachine y = doubleSender();
+        y.setPolicy(1000, 1000, 0);
+        for (int argument = 0; argument < 5; argument++) {
+            y.run(0, argument, 100);
+        }
+        y.setPolicy(1, 1, 5);
+        y.run(0, 0, 0);
+        Check.due("the second SEND is crowded", learned(y), "2/6/0 12:1[3] 13:4[012] ");
+        Check.due("a class of the crowded one", y.implement(2, 0, 0), 0);
+        Check.due("the class of the other one", y.implement(3, 0, 0), 1);
     }
 
     private static void implementLetsNothingFall() {

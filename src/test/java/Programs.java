@@ -189,4 +189,31 @@ class Programs {
         }
         return x;
     }
+
+    /**
+     * Class 0 with its children 1, 2 and 3. Method 0 sends selector 1, at its place 5, to the object that it is called
+     * with, which calls the empty method 1; with an argument of 1 or more it calls itself before, at its place 4, by
+     * an object of class 0. Methods 2 to 5 call method 0 with an object of class 0 to 3. Here method 0 was compiled to
+     * tier 2 when place 5 had met the classes 0, 1 and 2; then one that still ran in tier 1 has met class 3 there. So
+     * the record is crowded, but the trusted one is not.
+     */
+    static TieredMachine crowdedLater() {
+        TieredMachine x = new TieredMachine();
+        for (int type = 0; type < 4; type++) {
+            x.addClass(type == 0 ? -1 : 0);
+        }
+        x.implement(0, 0, method(x, set(2, 1), less(0, 2, 5), make(3, 0), set(0, 0), send(2, 0, 3, 0),
+            send(2, 1, 1, 0)));
+        x.implement(0, 1, x.addMethod());
+        for (int type = 0; type < 4; type++) {
+            method(x, make(1, type), send(0, 0, 1, 0));
+        }
+        x.setPolicy(1, 1000, 0);
+        for (int type = 0; type < 3; type++) {
+            x.run(2 + type, 0, 100);
+        }
+        x.setPolicy(1, 5, 5);
+        x.run(5, 1, 100);
+        return x;
+    }
 }

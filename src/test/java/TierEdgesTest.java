@@ -13,6 +13,7 @@ final class TierEdgesTest extends Programs {
         record();
         noting();
         trust();
+        trustIsOfTheCompilation();
         trustOfAnEmptyRecord();
         trustAtTheFirstAndTheLastPlace();
         trustEnds();
@@ -269,6 +270,21 @@ final class TierEdgesTest extends Programs {
         records("class 1 was noted after the compilation", y, "4:1[0] 6:1[1] ");
         y.run(0, 1, 100);
         learned("so it is not trusted", y, "0/0/1");
+    }
+
+    /** Methods 2, 3 and 5 are in tier 1: NEW and SEND cost 4 each, and the search for method 0 costs 1 or 2. */
+    private static void trustIsOfTheCompilation() {
+        TieredMachine x = crowdedLater();
+        learned("compiled before the fourth class came", x, "2/5/0");
+        records("crowded since then", x, "4:1[0] 5:4[012] ");
+        x.run(2, 0, 100);
+        Check.due("class 0 is trusted with the index 0", x.cost(), 8 + 1 + 3 + 0);
+        x.run(3, 0, 100);
+        Check.due("class 1 is trusted with the index 1", x.cost(), 8 + 2 + 3 + 1);
+        x.run(5, 0, 100);
+        Check.due("class 3 is not trusted", x.cost(), 8 + 2 + 3 + 2);
+        learned("class 3 is not trusted", x, "0/0/1");
+        records("crowded as before", x, "4:1[0] 5:4[012] ");
     }
 
     private static void trustOfAnEmptyRecord() {
