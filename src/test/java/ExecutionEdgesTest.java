@@ -403,7 +403,7 @@ final class ExecutionEdgesTest extends Programs {
         switchOfTheInnerOneAlone();
     }
 
-    /** The inner one, with the argument 1, goes back once, from place 8 to 6; it returns from 9, the outer one from 5. */
+    /** The inner one, with the argument 1, goes back once, from 8 to 6; it returns from 9, the outer one from 5. */
     private static void switchOfTheInnerOneAlone() {
         TieredMachine x = single(set(2, 1), sub(0, 0, 2), less(0, 2, 6), make(3, 0), send(1, 0, 3, 0), answer(1),
             less(2, 3, 9), set(3, 5), jump(6), answer(0));

@@ -98,15 +98,17 @@ final class ModelTest {
         }
     }
 
-    private void build() throws Exception {
-        int wantedTypes = 2 + random.nextInt(5);
-        int wantedMethods = 2 + random.nextInt(4);
+    private void addEmpty(int wantedTypes, int wantedMethods) throws Exception {
         for (; types < wantedTypes; types++) {
             call("addClass", below(types + 1) - 1);
         }
         for (; methods < wantedMethods; methods++) {
             call("addMethod");
         }
+    }
+
+    private void build() throws Exception {
+        addEmpty(2 + random.nextInt(5), 2 + random.nextInt(4));
         for (int m = 0; m < methods; m++) {
             int length = random.nextInt(21);
             for (int i = 0; i < length; i++) {
@@ -122,14 +124,7 @@ final class ModelTest {
     }
 
     private void buildLively() throws Exception {
-        int wantedTypes = 4 + random.nextInt(5);
-        int wantedMethods = 3 + random.nextInt(3);
-        for (; types < wantedTypes; types++) {
-            call("addClass", below(types + 1) - 1);
-        }
-        for (; methods < wantedMethods; methods++) {
-            call("addMethod");
-        }
+        addEmpty(4 + random.nextInt(5), 3 + random.nextInt(3));
         for (int m = 0; m < methods; m++) {
             appendLively(m);
         }

@@ -349,9 +349,15 @@ final class ProgramEdgesTest extends Programs {
             Check.due("index " + type + " of it", x.implement(type, 1, 3), 1);
             Check.due("index " + type + " of it", learned(x), "0/0/0 4:1[0] 5:4[012] ");
         }
-        TieredMachine y = crowdedLater();
-        Check.due("a class that only the present one has met", y.implement(3, 1, 3), 0);
-        Check.due("a class that only the present one has met", learned(y), before);
+        TieredMachine crowding = crowdedLater();
+        Check.due("the class that has crowded the present one", crowding.implement(3, 1, 3), 0);
+        Check.due("the class that has crowded the present one", learned(crowding), before);
+        TieredMachine y = recursive();
+        y.setPolicy(1, 2, 5);
+        y.run(0, 1, 100);
+        Check.due("class 1 was met after the compilation", learned(y), "2/2/0 4:1[0] 6:1[1] ");
+        Check.due("so it is not trusted", y.implement(1, 1, 2), 0);
+        Check.due("class 0 was met before it", y.implement(0, 0, 2), 1);
     }
 
     /** Places 12 and 13 of doubleSender() both send selector 0. */
@@ -499,6 +505,9 @@ final class ProgramEdgesTest extends Programs {
             Check.due("none", x.setPolicy(c[0], c[1], c[2]), false);
         }
         Check.due("the two thresholds in each other's place", x.setPolicy(20, 5, 2), true);
+        TieredMachine y = trustsClassOne();
+        y.setPolicy(1000, 1000, 0);
+        Check.due("no tier is taken away", learned(y), "2/2/0 10:1[1] ");
     }
 
     private static void setPolicyOutside() {
